@@ -158,7 +158,11 @@ public final class EventSpansTest {
     answers("parent(240, 2): it is no head", 2, () -> x.parent(240, 2));
 
     EventSpans y = diamond();
-    answers("heads() of the diamond", 1, () -> y.heads());
+    y.parent(5, 0);
+    y.parent(7, 1);
+    answers("heads() of the diamond: one in place of two", 1, () -> y.heads());
+    answers("parent(7, 1): no longer on the list", 2, () -> y.parent(7, 1));
+    answers("heads() of the diamond again", 1, () -> y.heads());
     y.add(5, 1);
     y.parent(7, 1);
     y.add(7, 1);
