@@ -69,18 +69,30 @@ public final class EventSpansTest {
     return x;
   }
 
+  private static String thrownBy(Method method) {
+    StringBuilder text = new StringBuilder();
+    for (Class<?> thrown : method.getExceptionTypes()) {
+      text.append(' ').append(thrown.getSimpleName().replace("Exception", ""));
+    }
+    return text.toString();
+  }
+
   private static void face() {
     part = "the face";
     TreeSet<String> got = new TreeSet<>();
     for (Method m : EventSpans.class.getDeclaredMethods()) {
       if (!Modifier.isPrivate(m.getModifiers())) {
-        got.add(m.getReturnType() + " " + m.getName() + Arrays.toString(m.getParameterTypes()));
+        got.add(Modifier.toString(m.getModifiers()) + " " + m.getReturnType() + " " + m.getName() + Arrays.toString(m.getParameterTypes()) + thrownBy(m));
       }
     }
     TreeSet<String> want = new TreeSet<>(Arrays.asList(
-        "int parent[int, int]", "int heads[]", "int add[int, int]", "int events[int]", "int place[int, int]",
-        "long id[int]", "int parentOf[int, int]", "int related[int, int]", "int apart[int, int]",
-        "int latest[int, int, int]", "int head[int]", "int critical[]", "int base[int]"));
+        "public int parent[int, int] NoSuchElement UnsupportedOperation IllegalState", "public int heads[]",
+        "public int add[int, int] IllegalArgument UnsupportedOperation IllegalState",
+        "public int events[int] IllegalArgument", "public int place[int, int] NoSuchElement",
+        "public long id[int] NoSuchElement", "public int parentOf[int, int] NoSuchElement",
+        "public int related[int, int] NoSuchElement", "public int apart[int, int] NoSuchElement",
+        "public int latest[int, int, int] NoSuchElement", "public int head[int] NoSuchElement",
+        "public int critical[]", "public int base[int]"));
     if (!got.equals(want)) {
       report("the methods are " + got);
     }
